@@ -585,7 +585,7 @@ public final class BoundBraces {
         private final Braces braces;
         private int subject;
         final int[] pull;
-        final int[] load;
+        private final int[] load;
         final int[] way;
 
         Division(House house, Braces braces) {
@@ -1025,7 +1025,6 @@ public final class BoundBraces {
         private final int[] entryMember;
         private final int[] entryMatter;
         private final int[] entryWay;
-        private final int[] parts;
 
         Papers() {
             seen = 0;
@@ -1035,7 +1034,6 @@ public final class BoundBraces {
             entryMember = new int[MOST_ENTRIES];
             entryMatter = new int[MOST_ENTRIES];
             entryWay = new int[MOST_ENTRIES];
-            parts = new int[WAYS];
         }
 
         void clear() {
