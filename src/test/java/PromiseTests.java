@@ -33,6 +33,7 @@ public final class PromiseTests {
         sessions();
         drifting();
         undoing();
+        undoingDraws();
         undoKeepsTwentyFour();
         goesAndPull();
         mattersTried();
@@ -52,27 +53,12 @@ public final class PromiseTests {
         Due.is(call, got, want);
     }
 
-    /** All that can be asked of what is so, in one line. */
     private static String all(BoundBraces x) {
-        StringBuilder b = new StringBuilder();
-        for (int what = 0; what <= 14; what++) {
-            b.append(x.told(what)).append(' ');
-        }
-        for (int m = 0; m < x.told(1); m++) {
-            for (int what = 0; what <= 7; what++) {
-                b.append(x.member(m, what)).append(' ');
-            }
-        }
-        for (int s = 0; s < x.told(2); s++) {
-            for (int what = 0; what <= 5; what++) {
-                b.append(x.strap(s, what)).append(' ');
-            }
-        }
-        return b.append(x.fault()).append(' ').append(x.couldBe()).append(' ').append(x.judge()).toString();
+        return Due.picture(x) + " fault " + x.fault();
     }
 
     private static void isSame(String what, String got, String want) {
-        Due.is(what + " (same as ahead: " + want + " / " + got + ")", got.equals(want) ? 1 : 0, 1);
+        Due.isSame(what, got, want);
     }
 
     private static void faultOf(String text, int answer, int letter) {
@@ -604,11 +590,17 @@ public final class PromiseTests {
         is("all hold", x.told(8), 127);
         is("the put", x.undo(1), 0);
         isSame("as at first", all(x), start);
+    }
+
+    private static void undoingDraws() {
+        BoundBraces x = Due.told(FOUR);
+        x.seed(9);
+        String start = all(x);
         x.drift(3);
         int seed = x.seed(9);
         x.seed(seed);
         is("undo of draws", x.undo(3), 0);
-        is("the seed stays", x.seed(0), seed);
+        is("the seed stays", x.seed(9), seed);
         isSame("as at first", all(x), start);
         // what is seen and the book are no part of it
         x.put(0);
