@@ -57,6 +57,8 @@ public final class DeedBoundsTests {
         undoingSinceTheImage();
         undoingTwiceTheRing();
         theSeedStays();
+        putIsFullAt90000();
+        sessionIsFullAt90000();
         Due.done();
     }
 
@@ -850,5 +852,49 @@ public final class DeedBoundsTests {
         x.seed(11);
         x.undo(1);
         is("as it was set", x.seed(0), 11);
+    }
+
+    // These two go beyond 512 calls, where the answers are free: no other run comes to the bound, and the class keeps to it.
+
+    private static void putIsFullAt90000() {
+        Due.says("FULL: PUT ones are 90000 or more");
+        BoundBraces x = Due.told("q9;m0 0 9 1;");
+        for (int n = 1; n < 90000; n++) {
+            x.put(1);
+        }
+        is("the 90000th", x.put(0), 1);
+        is("put ones", x.told(4), 90000);
+        is("the 90001st", x.put(0), FULL);
+        is("outside goes first", x.put(8), -1000000002);
+        is("drift(1)", x.drift(1), FULL);
+        is("drift(21)", x.drift(21), -1000000002);
+        is("put ones", x.told(4), 90000);
+        is("passed ones", x.told(5), 1);
+        is("the seed", x.seed(0), 0);
+        is("24 deeds", x.told(14), 24);
+        is("a session may end", x.session(), 1);
+        is("undone there is room", x.undo(2), 89999);
+        is("the 90000th again", x.put(0), 1);
+        is("and no more", x.put(0), FULL);
+    }
+
+    private static void sessionIsFullAt90000() {
+        Due.says("FULL: SESSIONS are 90000 or more");
+        BoundBraces x = Due.told("q9;m1 0 9 1;");
+        for (int n = 1; n < 90000; n++) {
+            x.session();
+        }
+        is("the 90000th", x.session(), 90000);
+        is("the 90001st", x.session(), FULL);
+        is("drift(1)", x.drift(1), FULL);
+        is("drift(0)", x.drift(0), -1000000002);
+        is("sessions", x.told(7), 90000);
+        is("put ones", x.told(4), 0);
+        is("one may be put", x.put(0), 1);
+        x.undo(2);
+        is("undone there is room", x.told(7), 89999);
+        x.drift(1);
+        is("drawn again", x.told(14), 23);
+        is("two draws", x.seed(0), (int) behind(0, 2));
     }
 }
