@@ -261,7 +261,7 @@ public final class BoundBraces {
         if (isOutside(t, MATTERS) || isOutside(what, 2)) {
             return OUTSIDE;
         }
-        now.division.take(t, 0);
+        now.division.take(t);
         return what == 0 ? now.division.way[m] : now.division.pull[m] + OFFSET;
     }
 
@@ -519,8 +519,9 @@ public final class BoundBraces {
             }
         }
 
+        /** A strap that there is not does not hold: who asks this has looked at the number, too. */
         boolean holds(int s) {
-            return fate[s] == HOLDING;
+            return s >= 0 && s < straps && fate[s] == HOLDING;
         }
 
         int setOfHolding() {
@@ -579,14 +580,16 @@ public final class BoundBraces {
         }
     }
 
-    /** How each member would go on one matter: it tells of the latest take() alone. */
+    /** How members would go on one matter: it tells of the latest take() alone. */
     private static final class Division {
         private final House house;
         private final Braces braces;
         private int subject;
         final int[] pull;
-        private final int[] load;
+        final int[] load;
+        final boolean[] isHanging;
         final int[] way;
+        final int[] votes;
 
         Division(House house, Braces braces) {
             this.house = house;
@@ -594,39 +597,45 @@ public final class BoundBraces {
             subject = 0;
             pull = new int[MOST_MEMBERS];
             load = new int[MOST_MEMBERS];
+            isHanging = new boolean[MOST_MEMBERS];
             way = new int[MOST_MEMBERS];
+            votes = new int[MOST_MEMBERS];
+        }
+
+        void take(int t) {
+            for (int m = 0; m < house.members; m++) {
+                takeOne(m, t, 0);
+            }
         }
 
         /** The straps of the set loose are taken as if they had been let go. */
-        void take(int t, int loose) {
+        void takeOne(int m, int t, int loose) {
             subject = t;
-            for (int m = 0; m < house.members; m++) {
-                pull[m] = 0;
-                load[m] = 0;
-            }
+            pull[m] = 0;
+            load[m] = 0;
             for (int s = 0; s < braces.straps; s++) {
-                if (braces.holds(s) && !isIn(loose, s)) {
-                    weigh(s);
+                if (braces.holds(s) && braces.owner[s] == m && !isIn(loose, s)) {
+                    load[m] += braces.notch[s];
+                    pull[m] += pullBy(s);
                 }
             }
-            for (int m = 0; m < house.members; m++) {
-                way[m] = wayOf(m);
-            }
+            isHanging[m] = load[m] > braces.weight[m];
+            way[m] = wayOf(m);
+            votes[m] = votesOf(m);
         }
 
-        private void weigh(int s) {
-            int m = braces.owner[s];
-            load[m] += braces.notch[s];
-            if (braces.matter[s] == subject) {
-                pull[m] += braces.direction[s] == FOR ? braces.notch[s] : -braces.notch[s];
+        private int pullBy(int s) {
+            if (braces.matter[s] != subject) {
+                return 0;
             }
+            return braces.direction[s] == FOR ? braces.notch[s] : -braces.notch[s];
         }
 
         private int wayOf(int m) {
             if (pull[m] != 0) {
                 return pull[m] > 0 ? FOR : AGAINST;
             }
-            return hangs(m) ? AWAY : ownWayOf(m);
+            return isHanging[m] ? AWAY : ownWayOf(m);
         }
 
         private int ownWayOf(int m) {
@@ -634,24 +643,20 @@ public final class BoundBraces {
             return house.would[m] >> subject & 1;
         }
 
-        boolean hangs(int m) {
-            return load[m] > braces.weight[m];
-        }
-
         boolean isHeld(int m) {
             return way[m] != AWAY && way[m] != ownWayOf(m);
         }
 
-        int votesOf(int m) {
+        private int votesOf(int m) {
             if (way[m] == AWAY) {
                 return 0;
             }
-            return house.kind[m] == FOUNDER && hangs(m) ? 2 : 1;
+            return house.kind[m] == FOUNDER && isHanging[m] ? 2 : 1;
         }
 
         /** Votes for it are above 0, votes against it below. */
         int gainBy(int m) {
-            return way[m] == FOR ? votesOf(m) : -votesOf(m);
+            return way[m] == FOR ? votes[m] : -votes[m];
         }
 
         int margin() {
@@ -662,22 +667,14 @@ public final class BoundBraces {
             return margin;
         }
 
-        int allVotes() {
-            int votes = 0;
-            for (int m = 0; m < house.members; m++) {
-                votes += votesOf(m);
-            }
-            return votes;
-        }
-
         int votesOfSet(int set) {
-            int votes = 0;
+            int sum = 0;
             for (int m = 0; m < house.members; m++) {
                 if (isIn(set, m)) {
-                    votes += votesOf(m);
+                    sum += votes[m];
                 }
             }
-            return votes;
+            return sum;
         }
 
         int setThatGoes(int wanted) {
@@ -696,8 +693,11 @@ public final class BoundBraces {
 
         /** What the strap would be strained by, were the matter put. */
         int strainOn(int s) {
+            if (!isOn(s)) {
+                return 0;
+            }
             int m = braces.owner[s];
-            if (!isOn(s) || way[m] == AWAY) {
+            if (isOutside(m, house.members) || way[m] == AWAY) {
                 return 0;
             }
             if (braces.direction[s] != way[m]) {
@@ -709,7 +709,7 @@ public final class BoundBraces {
         private int strainByKind(int m) {
             switch (house.kind[m]) {
                 case OLD: return 2;
-                case ON_TOES: return hangs(m) ? 1 : 0;
+                case ON_TOES: return isHanging[m] ? 1 : 0;
                 default: return 1;
             }
         }
@@ -729,7 +729,7 @@ public final class BoundBraces {
 
         /** All straps strain ahead of the first that gives, by the division as it was taken. */
         boolean putMatter(int t) {
-            division.take(t, 0);
+            division.take(t);
             boolean passes = division.margin() > 0;
             for (int s = 0; s < braces.straps; s++) {
                 braces.strain[s] += division.strainOn(s);
@@ -760,8 +760,12 @@ public final class BoundBraces {
         }
 
         int marginOn(int t) {
-            division.take(t, 0);
+            division.take(t);
             return division.margin();
+        }
+
+        int setOfMembers() {
+            return (1 << house.members) - 1;
         }
 
         int setOfPassing() {
@@ -775,10 +779,10 @@ public final class BoundBraces {
         }
 
         int setOfHanging() {
-            division.take(0, 0);
+            division.take(0);
             int set = 0;
             for (int m = 0; m < house.members; m++) {
-                if (division.hangs(m)) {
+                if (division.isHanging[m]) {
                     set |= 1 << m;
                 }
             }
@@ -788,7 +792,7 @@ public final class BoundBraces {
         int setOfHeldOn(int m) {
             int set = 0;
             for (int t = 0; t < MATTERS; t++) {
-                division.take(t, 0);
+                division.take(t);
                 if (division.isHeld(m)) {
                     set |= 1 << t;
                 }
@@ -797,7 +801,7 @@ public final class BoundBraces {
         }
 
         int setOfCreaking(int t) {
-            division.take(t, 0);
+            division.take(t);
             int set = 0;
             for (int s = 0; s < braces.straps; s++) {
                 if (division.strainOn(s) > 0) {
@@ -808,11 +812,11 @@ public final class BoundBraces {
         }
 
         int sideHeldMost() {
+            // whichever the matter, the load is of all the straps that hold
+            division.take(0);
             int more = 0;
-            for (int s = 0; s < braces.straps; s++) {
-                if (braces.holds(s)) {
-                    more += house.side[braces.owner[s]] == 1 ? braces.notch[s] : -braces.notch[s];
-                }
+            for (int m = 0; m < house.members; m++) {
+                more += house.side[m] == 1 ? division.load[m] : -division.load[m];
             }
             return more > 0 ? 1 : 0;
         }
@@ -869,10 +873,12 @@ public final class BoundBraces {
             int sets = 1 << Integer.bitCount(own);
             int loose = 0;
             for (int i = 0; i < sets; i++) {
-                now.division.take(t, loose);
+                now.division.takeOne(m, t, loose);
                 int gain = now.division.gainBy(m) + MOST_GAIN;
                 int price = Integer.bitCount(loose) * STRAP_SETS + loose;
-                priceOfGain[gain] = Math.min(priceOfGain[gain], price);
+                if (!isOutside(gain, GAINS)) {
+                    priceOfGain[gain] = Math.min(priceOfGain[gain], price);
+                }
                 loose = subsetBehind(loose, own);
             }
         }
@@ -907,7 +913,7 @@ public final class BoundBraces {
             mostPassed = NONE;
             bestFigures = 0;
             int size = Integer.bitCount(set);
-            int orders = size < ORDERS.length ? ORDERS[size] : 0;
+            int orders = ordersOf(size);
             for (int rank = 0; rank < orders; rank++) {
                 tryAgenda(set, size, rank);
             }
@@ -920,8 +926,10 @@ public final class BoundBraces {
             int figures = 0;
             int passed = 0;
             for (int behind = size - 1; behind >= 0; behind--) {
-                int t = matterAt(left, rest / ORDERS[behind]);
-                rest %= ORDERS[behind];
+                int orders = ordersOf(behind);
+                int place = orders > 0 ? rest / orders : 0;
+                int t = matterAt(left, place);
+                rest -= place * orders;
                 left &= ~(1 << t);
                 figures = figures * 10 + t + 1;
                 if (tried.putMatter(t)) {
@@ -949,12 +957,12 @@ public final class BoundBraces {
 
         /** Who stands ahead of him matters, not how they stand: so sets are gone through, not orders. */
         int ordersTurnedBy(int m, int t) {
-            now.division.take(t, 0);
+            now.division.take(t);
             if (now.division.way[m] != FOR) {
                 return 0;
             }
-            int all = now.division.allVotes();
-            int his = now.division.votesOf(m);
+            int all = now.division.votesOfSet(now.setOfMembers());
+            int his = now.division.votes[m];
             int others = now.division.setThatGoes(FOR) & ~(1 << m);
             int sets = 1 << Integer.bitCount(others);
             int orders = 0;
@@ -962,11 +970,15 @@ public final class BoundBraces {
             for (int i = 0; i < sets; i++) {
                 int votes = now.division.votesOfSet(ahead);
                 if (2 * votes <= all && 2 * (votes + his) > all) {
-                    orders += ORDERS[Integer.bitCount(ahead)] * ORDERS[Integer.bitCount(others & ~ahead)];
+                    orders += ordersOf(Integer.bitCount(ahead)) * ordersOf(Integer.bitCount(others & ~ahead));
                 }
                 ahead = subsetBehind(ahead, others);
             }
             return orders;
+        }
+
+        private static int ordersOf(int n) {
+            return isOutside(n, ORDERS.length) ? 0 : ORDERS[n];
         }
 
         /** The next greater subset of the whole (behind the whole itself, the empty one). */
@@ -984,7 +996,7 @@ public final class BoundBraces {
     /** What was so ahead of each of the latest deeds; the oldest makes room. */
     private static final class Past {
         private final Braces[] rows;
-        private int end;
+        private int deeds;
         int count;
 
         Past() {
@@ -992,7 +1004,7 @@ public final class BoundBraces {
             for (int i = 0; i < MOST_UNDONE; i++) {
                 rows[i] = new Braces();
             }
-            end = 0;
+            deeds = 0;
             count = 0;
         }
 
@@ -1001,18 +1013,18 @@ public final class BoundBraces {
         }
 
         void remember(Braces braces) {
-            rows[end].copyFrom(braces);
-            end = (end + 1) % MOST_UNDONE;
+            rows[Math.floorMod(deeds, MOST_UNDONE)].copyFrom(braces);
+            deeds++;
             count = Math.min(count + 1, MOST_UNDONE);
         }
 
-        void recall(int deeds, Braces braces) {
-            if (deeds < 1 || deeds > count) {
+        void recall(int n, Braces braces) {
+            if (n < 1 || n > count) {
                 return;
             }
-            end = (end + MOST_UNDONE - deeds) % MOST_UNDONE;
-            count -= deeds;
-            braces.copyFrom(rows[end]);
+            deeds -= n;
+            count -= n;
+            braces.copyFrom(rows[Math.floorMod(deeds, MOST_UNDONE)]);
         }
     }
 
@@ -1061,9 +1073,9 @@ public final class BoundBraces {
         }
 
         int setThatFits(Sitting now) {
-            int set = (1 << now.house.members) - 1;
+            int set = now.setOfMembers();
             for (int i = 0; i < seen; i++) {
-                now.division.take(seenMatter[i], 0);
+                now.division.take(seenMatter[i]);
                 set &= now.division.setThatGoes(seenWay[i]);
             }
             return set;
@@ -1074,7 +1086,7 @@ public final class BoundBraces {
             int best = NONE;
             int leastPart = Integer.bitCount(set);
             for (int t = 0; t < MATTERS; t++) {
-                now.division.take(t, 0);
+                now.division.take(t);
                 int part = greatestPart(set, now.division);
                 if (part < leastPart) {
                     leastPart = part;
@@ -1094,8 +1106,9 @@ public final class BoundBraces {
 
         int firstWrong(Sitting now) {
             for (int i = 0; i < entries; i++) {
-                now.division.take(entryMatter[i], 0);
-                if (now.division.way[entryMember[i]] != entryWay[i]) {
+                now.division.take(entryMatter[i]);
+                int m = entryMember[i];
+                if (!isOutside(m, now.house.members) && now.division.way[m] != entryWay[i]) {
                     return i;
                 }
             }
@@ -1135,16 +1148,15 @@ public final class BoundBraces {
             braces.clear();
             skipBlanks();
             for (int clause = 0; clause < MOST_LETTERS && at < length && faultNumber == 0; clause++) {
-                readClause();
+                readClause(at);
                 skipBlanks();
             }
             return faultNumber;
         }
 
-        private void readClause() {
-            int wordAt = at;
+        private void readClause(int wordAt) {
             int word = letters[wordAt];
-            at++;
+            at = wordAt + 1;
             if (word == 'q') {
                 readStrains(wordAt);
             } else if (word == 'm' && house.stands()) {
@@ -1169,11 +1181,11 @@ public final class BoundBraces {
         }
 
         private void readMember(int wordAt) {
-            if (house.members >= MOST_MEMBERS) {
+            int m = house.members;
+            if (m >= MOST_MEMBERS) {
                 blame(ONE_TOO_MANY, wordAt);
                 return;
             }
-            int m = house.members;
             house.kind[m] = readNumber(0, KINDS - 1);
             house.side[m] = readNumber(0, SIDES - 1);
             braces.weight[m] = readNumber(1, MOST_WEIGHT);

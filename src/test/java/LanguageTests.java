@@ -22,7 +22,7 @@ public final class LanguageTests {
     private static final String[] BANNED = {
         "\\bthrow\\b", "\\btry\\b", "\\bcatch\\b", "\\bsynchronized\\b", "\\bassert\\b", "\\bimport\\b", "\\bpackage\\b",
         "->", "::", "\\w+Exact\\b", "\\bprotected\\b", "\\bstatic\\s*\\{", "\\bhashCode\\b", "\\btoString\\b",
-        "\\bMath\\.(?!max\\b|min\\b)", "\\bSystem\\.(?!arraycopy\\b)", "\\bInteger\\.(?!bitCount\\b)", "\\bObject\\b",
+        "\\bMath\\.(?!max\\b|min\\b|floorMod\\b)", "\\bSystem\\.(?!arraycopy\\b)", "\\bInteger\\.(?!bitCount\\b)", "\\bObject\\b",
     };
 
     public static void main(String[] args) throws IOException {
