@@ -588,6 +588,7 @@ public final class BoundBraces {
         final int[] pull;
         final int[] load;
         final boolean[] isHanging;
+        private final int[] ownWay;
         final int[] way;
         final int[] votes;
 
@@ -598,6 +599,7 @@ public final class BoundBraces {
             pull = new int[MOST_MEMBERS];
             load = new int[MOST_MEMBERS];
             isHanging = new boolean[MOST_MEMBERS];
+            ownWay = new int[MOST_MEMBERS];
             way = new int[MOST_MEMBERS];
             votes = new int[MOST_MEMBERS];
         }
@@ -620,6 +622,8 @@ public final class BoundBraces {
                 }
             }
             isHanging[m] = load[m] > braces.weight[m];
+            // a bit of the set is the way itself: 1 for it, 0 against
+            ownWay[m] = house.would[m] >> subject & 1;
             way[m] = wayOf(m);
             votes[m] = votesOf(m);
         }
@@ -635,16 +639,11 @@ public final class BoundBraces {
             if (pull[m] != 0) {
                 return pull[m] > 0 ? FOR : AGAINST;
             }
-            return isHanging[m] ? AWAY : ownWayOf(m);
-        }
-
-        private int ownWayOf(int m) {
-            // a bit of the set is the way itself: 1 for it, 0 against
-            return house.would[m] >> subject & 1;
+            return isHanging[m] ? AWAY : ownWay[m];
         }
 
         boolean isHeld(int m) {
-            return way[m] != AWAY && way[m] != ownWayOf(m);
+            return way[m] != AWAY && way[m] != ownWay[m];
         }
 
         private int votesOf(int m) {
